@@ -1,0 +1,225 @@
+/** Promise 13: node; how probes, relays, scores and syncs go on. */
+public final class ProbeTest {
+    private static final Check CHECK = new Check("ProbeTest");
+
+    public static void main(String[] args) {
+        nodeIsRefused();
+        answeredProbe();
+        probesWithoutHelp();
+        othersAreAsked();
+        relayGivesUp();
+        lostNackCosts();
+        scoreFallsWhenAnswered();
+        staleAckIsNothing();
+        probesGoInTheRound();
+        syncsGoInTheRound();
+        CHECK.end();
+    }
+
+    private static GossipNodes startedBy0(int n) {
+        GossipNodes x = new GossipNodes(n);
+        for (int i = 0; i < n; i++) {
+            x.start(i, 0);
+        }
+        return x;
+    }
+
+    /** From what = 2: score, target, clock, answered, number, REST. */
+    private static void dueProbe(String what, GossipNodes x, int node, int... parts) {
+        for (int i = 0; i < parts.length; i++) {
+            CHECK.due(what + " at " + x.now() + ": node(" + node + ", " + (2 + i) + ")", x.node(node, 2 + i), parts[i]);
+        }
+    }
+
+    private static void nodeIsRefused() {
+        GossipNodes x = new GossipNodes(2);
+        for (int what = -1; what <= 10; what++) {
+            int none = what < 0 || what > 9 ? -1 : 0;
+            CHECK.due("does not run, what " + what, x.node(1, what), none);
+            CHECK.due("node -1", x.node(-1, what), -1);
+            CHECK.due("node 2", x.node(2, what), -1);
+        }
+        x.start(1, 1);
+        CHECK.due("runs", x.node(1, 0), 1);
+        CHECK.due("what -1", x.node(1, -1), -1);
+        CHECK.due("what 10", x.node(1, 10), -1);
+        CHECK.due("what far", x.node(1, Integer.MAX_VALUE), -1);
+        x.crash(1);
+        for (int what = 0; what <= 9; what++) {
+            CHECK.due("does not run any more, what " + what, x.node(1, what), 0);
+        }
+    }
+
+    private static void answeredProbe() {
+        GossipNodes x = startedBy0(2);
+        dueProbe("new", x, 0, 0, -1, 0, 0, 0, 2);
+        x.ticks(1);
+        dueProbe("rests", x, 0, 0, -1, 0, 0, 0, 1);
+        x.ticks(1);
+        dueProbe("begins", x, 0, 0, 1, 0, 0, 1, 0);
+        x.ticks(1);
+        dueProbe("goes on", x, 0, 0, 1, 1, 0, 1, 0);
+        x.ticks(1);
+        dueProbe("is answered", x, 0, 0, 1, 2, 1, 1, 0);
+        x.ticks(5);
+        dueProbe("waits for its end", x, 0, 0, 1, 7, 1, 1, 0);
+        CHECK.due("nobody was asked", x.flight(), 0);
+        x.ticks(1);
+        dueProbe("ends", x, 0, 0, -1, 0, 0, 1, 1);
+        x.ticks(1);
+        dueProbe("begins again", x, 0, 0, 1, 0, 0, 2, 0);
+    }
+
+    private static void probesWithoutHelp() {
+        GossipNodes x = startedBy0(2);
+        x.ticks(2);
+        x.crash(1);
+        x.ticks(8);
+        dueProbe("unanswered", x, 0, 1, -1, 0, 0, 1, 2);
+        x.ticks(2);
+        dueProbe("a suspect is probed", x, 0, 1, 1, 0, 0, 2, 0);
+        x.ticks(8);
+        dueProbe("unanswered", x, 0, 2, -1, 0, 0, 2, 3);
+        CHECK.due("no SYNC to a suspect", x.flight(), 0);
+        x.ticks(3);
+        dueProbe("third", x, 0, 2, 1, 0, 0, 3, 0);
+        x.ticks(8);
+        dueProbe("the target died meanwhile", x, 0, 3, -1, 0, 0, 3, 4);
+        CHECK.due("and stays dead", x.view(0, 1, 0), 3);
+        x.ticks(4);
+        dueProbe("there is none to probe", x, 0, 3, -1, 0, 0, 3, 3);
+        x.ticks(2);
+        dueProbe("rests", x, 0, 3, -1, 0, 0, 3, 1);
+        x.ticks(1);
+        dueProbe("rests again", x, 0, 3, -1, 0, 0, 3, 3);
+        CHECK.due("sends nothing", x.flight(), 0);
+    }
+
+    private static GossipNodes askedAtFive() {
+        GossipNodes x = startedBy0(3);
+        x.ticks(2);
+        x.cut(0, 1, true);
+        CHECK.due("only the PING of 2", x.ticks(1), 1);
+        CHECK.due("only the ACK of 0", x.ticks(1), 1);
+        CHECK.due("nothing", x.ticks(1), 0);
+        return x;
+    }
+
+    private static void othersAreAsked() {
+        GossipNodes x = askedAtFive();
+        CHECK.due("one is asked, and by 0 alone", x.flight(), 1);
+        CHECK.dueMessage("ASK", x, 0, new int[] {3, 0, 2, 1, 0, 1}, 0, 1, 0, 1, 1, 0, 2, 1, 0);
+        CHECK.due("no relay yet", x.node(2, 9), 0);
+        x.ticks(1);
+        CHECK.due("a relay", x.node(2, 9), 1);
+        CHECK.due("its PING", x.message(0, 0), 1);
+        CHECK.dueMessage("PING for 0", x, 0, new int[] {1, 2, 1, 1, 0, 1}, 0, 1, 0, 1, 1, 0, 2, 1, 0);
+        x.ticks(1);
+        CHECK.due("ACK to the relay", x.message(0, 2), 2);
+        CHECK.due("with the origin", x.message(0, 4), 0);
+        x.ticks(1);
+        CHECK.due("the relay is no more", x.node(2, 9), 0);
+        CHECK.due("one goes on", x.flight(), 1);
+        int[] ack = {2, 2, 0, 1, 0, 1};
+        for (int what = 0; what < ack.length; what++) {
+            CHECK.due("ACK to the origin", x.message(0, what), ack[what]);
+        }
+        dueProbe("before", x, 0, 0, 1, 6, 0, 1, 0);
+        x.ticks(1);
+        dueProbe("answered", x, 0, 0, 1, 7, 1, 1, 0);
+        x.ticks(1);
+        dueProbe("ended", x, 0, 0, -1, 0, 0, 1, 1);
+        CHECK.due("not suspected", x.view(0, 1, 0), 1);
+        dueProbe("1 knew nobody to ask", x, 1, 1, -1, 0, 0, 1, 2);
+        CHECK.due("and suspects", x.view(1, 0, 0), 2);
+    }
+
+    private static GossipNodes nackAtEight() {
+        GossipNodes x = askedAtFive();
+        x.ticks(1);
+        x.cut(1, 2, true);
+        CHECK.due("the PING of the relay is lost", x.ticks(1), 0);
+        CHECK.due("the relay waits", x.node(2, 9), 1);
+        CHECK.due("nothing on its way", x.flight(), 0);
+        x.ticks(1);
+        CHECK.due("the relay is no more", x.node(2, 9), 0);
+        return x;
+    }
+
+    private static void relayGivesUp() {
+        GossipNodes x = nackAtEight();
+        int[] nack = {4, 2, 0, 1, 0, 1};
+        for (int what = 0; what < nack.length; what++) {
+            CHECK.due("NACK", x.message(0, what), nack[what]);
+        }
+        x.ticks(2);
+        dueProbe("who asked and got a NACK is not to blame", x, 0, 0, -1, 0, 0, 1, 1);
+        CHECK.due("but the target is suspected", x.view(0, 1, 0), 2);
+        CHECK.due("by it alone", x.view(0, 1, 3), 1);
+    }
+
+    private static void lostNackCosts() {
+        GossipNodes x = nackAtEight();
+        x.drop(0);
+        x.ticks(2);
+        dueProbe("one asked, no NACK", x, 0, 1, -1, 0, 0, 1, 2);
+    }
+
+    private static void scoreFallsWhenAnswered() {
+        GossipNodes x = startedBy0(2);
+        x.ticks(2);
+        x.drop(0);
+        x.ticks(8);
+        CHECK.due("lost PING", x.node(0, 2), 1);
+        CHECK.due("REST is one more", x.node(0, 7), 2);
+        CHECK.due("the other was answered", x.node(1, 2), 0);
+        x.ticks(2);
+        dueProbe("probes again", x, 0, 1, 1, 0, 0, 2, 0);
+        x.ticks(8);
+        dueProbe("answered", x, 0, 0, -1, 0, 0, 2, 1);
+    }
+
+    /** The ACK of a probe before a crash has another number than the probe that goes on. */
+    private static void staleAckIsNothing() {
+        GossipNodes x = startedBy0(2);
+        x.ticks(12);
+        CHECK.dueMessage("ACK of the second probe", x, 0, new int[] {2, 1, 0, 2, 0, 1}, 0, 1, 0, 1, 1, 0);
+        x.crash(0);
+        x.start(0, 1);
+        CHECK.due("ACKs and a SYNC", x.ticks(1), 3);
+        CHECK.due("no probe goes on", x.node(0, 5), 0);
+        x.ticks(1);
+        dueProbe("first probe", x, 0, 0, 1, 0, 0, 1, 0);
+    }
+
+    private static void probesGoInTheRound() {
+        GossipNodes x = startedBy0(4);
+        int[] targets = {1, 2, 3, 1, 2};
+        x.ticks(2);
+        for (int i = 0; i < targets.length; i++) {
+            CHECK.due("probe " + i, x.node(0, 3), targets[i]);
+            CHECK.due("its number", x.node(0, 6), i + 1);
+            x.ticks(9);
+        }
+    }
+
+    private static void syncsGoInTheRound() {
+        GossipNodes x = startedBy0(4);
+        x.ticks(7);
+        int[] targets = {1, 2, 3, 1};
+        for (int i = 0; i < targets.length; i++) {
+            x.ticks(i == 0 ? 13 : 20);
+            int found = -1;
+            for (int k = 0; k < x.flight(); k++) {
+                if (x.message(k, 0) == 6 && x.message(k, 1) == 0) {
+                    found = x.message(k, 2);
+                }
+            }
+            CHECK.due("SYNC of 0 at " + x.now(), found, targets[i]);
+        }
+        GossipNodes y = new GossipNodes(2);
+        y.start(0, 0);
+        y.ticks(20);
+        CHECK.due("alone, none to sync with", y.flight(), 0);
+    }
+}
