@@ -13,6 +13,7 @@ public final class LifeTest {
         leaveTellsThoseAlive();
         leaveSharesOutTheQueue();
         leaveTellsNoneThatIsSuspect();
+        leaveSaysTheIncarnation();
         CHECK.end();
     }
 
@@ -73,9 +74,7 @@ public final class LifeTest {
     }
 
     private static void startAgainForgetsAll() {
-        GossipNodes x = new GossipNodes(2);
-        x.start(0, 0);
-        x.start(1, 0);
+        GossipNodes x = Groups.startedBy0(2);
         x.ticks(2);
         x.crash(1);
         x.ticks(18);
@@ -106,9 +105,7 @@ public final class LifeTest {
     }
 
     private static void crashedNodeStillHasMessagesOnTheirWay() {
-        GossipNodes x = new GossipNodes(2);
-        x.start(0, 0);
-        x.start(1, 0);
+        GossipNodes x = Groups.startedBy0(2);
         x.ticks(2);
         x.crash(1);
         CHECK.due("both PINGs stay", x.flight(), 2);
@@ -142,10 +139,7 @@ public final class LifeTest {
 
     /** Three news a message, most sendings first: the farewell itself is not in each GOSSIP. */
     private static void leaveSharesOutTheQueue() {
-        GossipNodes x = new GossipNodes(8);
-        for (int i = 0; i < 8; i++) {
-            x.start(i, 0);
-        }
+        GossipNodes x = Groups.startedBy0(8);
         x.ticks(2);
         CHECK.due("a PING of each", x.flight(), 8);
         CHECK.due("leave", x.leave(0), true);
@@ -159,14 +153,28 @@ public final class LifeTest {
     }
 
     private static void leaveTellsNoneThatIsSuspect() {
-        GossipNodes x = new GossipNodes(2);
-        x.start(0, 0);
-        x.start(1, 0);
+        GossipNodes x = Groups.startedBy0(2);
         x.ticks(2);
         x.crash(1);
         x.ticks(9);
         CHECK.due("SUSPECT", x.view(0, 1, 0), 2);
         CHECK.due("leave", x.leave(0), true);
         CHECK.due("none is told", x.flight(), 0);
+    }
+
+    private static void leaveSaysTheIncarnation() {
+        GossipNodes x = Groups.startedBy0(2);
+        x.ticks(2);
+        x.cut(0, 1, true);
+        x.ticks(8);
+        x.cut(0, 1, false);
+        x.ticks(5);
+        CHECK.due("it has refuted", x.node(1, 1), 1);
+        CHECK.due("leave", x.leave(1), true);
+        int last = x.flight() - 1;
+        CHECK.due("GOSSIP", x.message(last, 0), 5);
+        x.ticks(1);
+        CHECK.due("DEAD", x.view(0, 1, 0), 3);
+        CHECK.due("with its incarnation", x.view(0, 1, 1), 1);
     }
 }

@@ -9,7 +9,8 @@ public final class ModelTest {
     private final Random random;
     private final int run;
     private final int size;
-    private final boolean rough;
+    /** How many calls of a hundred break something. */
+    private final int disturbing;
     private final GossipNodes x;
     private final Model y;
 
@@ -18,8 +19,8 @@ public final class ModelTest {
         this.run = run;
         random = new Random(run);
         size = random.nextInt(11);
-        // Rough runs break much and wait little; the others let suspicions ripen.
-        rough = run % 3 == 0;
+        // Some runs break much and wait little, some let suspicions ripen, some stay in step.
+        disturbing = new int[] {28, 10, 1}[run % 3];
         x = new GossipNodes(size);
         y = new Model(size);
     }
@@ -34,14 +35,15 @@ public final class ModelTest {
 
     private void callAll() {
         int called = startAll();
-        for (; called < CALLS; called++) {
+        // One less, as a disturbance may take two calls.
+        for (; called < CALLS - 1; called++) {
             int draw = random.nextInt(100);
-            if (draw < 50) {
-                observe();
-            } else if (draw < (rough ? 72 : 90)) {
+            if (draw < disturbing) {
+                called += disturb();
+            } else if (draw < 50) {
                 tick();
             } else {
-                disturb();
+                observe();
             }
         }
     }
@@ -75,19 +77,26 @@ public final class ModelTest {
         due("ticks(" + n + ")", x.ticks(n), y.ticks(n));
     }
 
-    private void disturb() {
+    /** How many calls it made beside the one. */
+    private int disturb() {
         int a = anyNode();
         int b = anyNode();
         int k = anyPlace();
         boolean is = random.nextInt(3) != 0;
-        switch (random.nextInt(10)) {
+        switch (random.nextInt(11)) {
             case 0 -> due("crash(" + a + ")", x.crash(a) ? 1 : 0, y.crash(a) ? 1 : 0);
+            case 9 -> {
+                due("crash(" + a + ")", x.crash(a) ? 1 : 0, y.crash(a) ? 1 : 0);
+                start(a, b);
+                return 1;
+            }
             case 1 -> due("leave(" + a + ")", x.leave(a) ? 1 : 0, y.leave(a) ? 1 : 0);
             case 2, 3, 4 -> start(a, b);
             case 5, 6 -> due("cut(" + a + ", " + b + ", " + is + ")", x.cut(a, b, is) ? 1 : 0, y.cut(a, b, is) ? 1 : 0);
             case 7, 8 -> due("drop(" + k + ")", x.drop(k) ? 1 : 0, y.drop(k) ? 1 : 0);
             default -> due("swap(" + k + ")", x.swap(k) ? 1 : 0, y.swap(k) ? 1 : 0);
         }
+        return 0;
     }
 
     private void observe() {

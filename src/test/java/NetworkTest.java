@@ -18,9 +18,7 @@ public final class NetworkTest {
     }
 
     private static GossipNodes twoThatKnowEachOther() {
-        GossipNodes x = new GossipNodes(2);
-        x.start(0, 0);
-        x.start(1, 0);
+        GossipNodes x = Groups.startedBy0(2);
         x.ticks(2);
         return x;
     }
@@ -46,10 +44,7 @@ public final class NetworkTest {
     }
 
     private static void cutLosesMessages() {
-        GossipNodes x = new GossipNodes(3);
-        x.start(0, 0);
-        x.start(1, 0);
-        x.start(2, 0);
+        GossipNodes x = Groups.startedBy0(3);
         x.cut(0, 1, true);
         CHECK.due("only one SYNC comes", x.ticks(1), 1);
         CHECK.due("only one is answered", x.flight(), 1);
@@ -114,9 +109,7 @@ public final class NetworkTest {
 
     /** A node's GOSSIP that overtakes its SYNC: the SYNC of before is not greater then. */
     private static void swapChangesWhatIsLearnedFirst() {
-        GossipNodes x = new GossipNodes(2);
-        x.start(0, 0);
-        x.start(1, 0);
+        GossipNodes x = Groups.startedBy0(2);
         x.ticks(2);
         x.crash(1);
         x.start(1, 0);

@@ -11,17 +11,14 @@ public final class ProbeTest {
         lostNackCosts();
         scoreFallsWhenAnswered();
         staleAckIsNothing();
+        oldNumberIsNothing();
+        moreNacksThanAsked();
+        nobodyHearsNodeZero();
+        twoAreAsked();
+        fourRelaysAtMost();
         probesGoInTheRound();
         syncsGoInTheRound();
         CHECK.end();
-    }
-
-    private static GossipNodes startedBy0(int n) {
-        GossipNodes x = new GossipNodes(n);
-        for (int i = 0; i < n; i++) {
-            x.start(i, 0);
-        }
-        return x;
     }
 
     /** From what = 2: score, target, clock, answered, number, REST. */
@@ -51,7 +48,7 @@ public final class ProbeTest {
     }
 
     private static void answeredProbe() {
-        GossipNodes x = startedBy0(2);
+        GossipNodes x = Groups.startedBy0(2);
         dueProbe("new", x, 0, 0, -1, 0, 0, 0, 2);
         x.ticks(1);
         dueProbe("rests", x, 0, 0, -1, 0, 0, 0, 1);
@@ -71,7 +68,7 @@ public final class ProbeTest {
     }
 
     private static void probesWithoutHelp() {
-        GossipNodes x = startedBy0(2);
+        GossipNodes x = Groups.startedBy0(2);
         x.ticks(2);
         x.crash(1);
         x.ticks(8);
@@ -96,7 +93,7 @@ public final class ProbeTest {
     }
 
     private static GossipNodes askedAtFive() {
-        GossipNodes x = startedBy0(3);
+        GossipNodes x = Groups.startedBy0(3);
         x.ticks(2);
         x.cut(0, 1, true);
         CHECK.due("only the PING of 2", x.ticks(1), 1);
@@ -166,7 +163,7 @@ public final class ProbeTest {
     }
 
     private static void scoreFallsWhenAnswered() {
-        GossipNodes x = startedBy0(2);
+        GossipNodes x = Groups.startedBy0(2);
         x.ticks(2);
         x.drop(0);
         x.ticks(8);
@@ -181,7 +178,7 @@ public final class ProbeTest {
 
     /** The ACK of a probe before a crash has another number than the probe that goes on. */
     private static void staleAckIsNothing() {
-        GossipNodes x = startedBy0(2);
+        GossipNodes x = Groups.startedBy0(2);
         x.ticks(12);
         CHECK.dueMessage("ACK of the second probe", x, 0, new int[] {2, 1, 0, 2, 0, 1}, 0, 1, 0, 1, 1, 0);
         x.crash(0);
@@ -192,8 +189,137 @@ public final class ProbeTest {
         dueProbe("first probe", x, 0, 0, 1, 0, 0, 1, 0);
     }
 
+    /** The place of the first message of a kind from a sender, or -1. */
+    private static int place(GossipNodes x, int kind, int sender) {
+        for (int k = 0; k < x.flight(); k++) {
+            if (x.message(k, 0) == kind && x.message(k, 1) == sender) {
+                return k;
+            }
+        }
+        return -1;
+    }
+
+    /** A relay still answers for the second probe when the restarted node makes its first one. */
+    private static void oldNumberIsNothing() {
+        GossipNodes x = Groups.startedBy0(3);
+        x.ticks(11);
+        dueProbe("second probe", x, 0, 0, 2, 0, 0, 2, 0);
+        x.cut(0, 2, true);
+        x.ticks(3);
+        int ask = place(x, 3, 0);
+        CHECK.due("ASK to 1", x.message(ask, 2), 1);
+        CHECK.due("of the second probe", x.message(ask, 3), 2);
+        x.crash(0);
+        x.start(0, 1);
+        x.ticks(2);
+        dueProbe("first probe", x, 0, 0, 1, 0, 0, 1, 0);
+        CHECK.due("its PING is lost", x.drop(place(x, 1, 0)), true);
+        x.ticks(1);
+        int ack = place(x, 2, 1);
+        CHECK.due("the old ACK goes on to 0", x.message(ack, 2), 0);
+        CHECK.due("with its number", x.message(ack, 3), 2);
+        x.ticks(1);
+        dueProbe("not answered by that", x, 0, 0, 1, 2, 0, 1, 0);
+    }
+
+    /** NACKs for a probe before the restart, of the same number, come on top of those asked for. */
+    private static void moreNacksThanAsked() {
+        GossipNodes x = Groups.startedBy0(4);
+        x.ticks(2);
+        cutFromAll(x, 1, 4);
+        x.ticks(3);
+        CHECK.due("0 asks", place(x, 3, 0) >= 0, true);
+        x.crash(0);
+        x.start(0, 2);
+        x.ticks(2);
+        dueProbe("first probe again", x, 0, 0, 1, 0, 0, 1, 0);
+        x.ticks(1);
+        CHECK.due("old NACK of 2", x.message(place(x, 4, 2), 2), 0);
+        CHECK.due("old NACK of 3", x.message(place(x, 4, 3), 2), 0);
+        x.ticks(2);
+        CHECK.due("0 asks again", place(x, 3, 0) >= 0, true);
+        x.ticks(3);
+        CHECK.due("new NACK of 2", x.message(place(x, 4, 2), 2), 0);
+        CHECK.due("new NACK of 3", x.message(place(x, 4, 3), 2), 0);
+        x.ticks(2);
+        dueProbe("the score does not grow, and does not fall", x, 0, 0, -1, 0, 0, 1, 1);
+        CHECK.due("suspected", x.view(0, 1, 0), 2);
+    }
+
+    private static void cutFromAll(GossipNodes x, int node, int n) {
+        for (int m = 0; m < n; m++) {
+            x.cut(node, m, true);
+        }
+    }
+
+    private static void nobodyHearsNodeZero() {
+        GossipNodes x = Groups.startedBy0(4);
+        x.ticks(2);
+        cutFromAll(x, 0, 4);
+        x.ticks(8);
+        dueProbe("two asked", x, 0, 2, -1, 0, 0, 1, 3);
+        x.ticks(3);
+        dueProbe("second probe", x, 0, 2, 2, 0, 0, 2, 0);
+        x.ticks(3);
+        int ask = place(x, 3, 0);
+        CHECK.due("a suspect is not asked", x.message(ask, 2), 3);
+        x.ticks(5);
+        dueProbe("one asked", x, 0, 3, -1, 0, 0, 2, 4);
+        x.ticks(12);
+        dueProbe("none to ask", x, 0, 4, -1, 0, 0, 3, 5);
+        CHECK.due("the first is dead", x.view(0, 1, 0), 3);
+        x.ticks(5);
+        dueProbe("the dead one is passed over", x, 0, 4, 2, 0, 0, 4, 0);
+        x.ticks(8);
+        dueProbe("not above 4", x, 0, 4, -1, 0, 0, 4, 5);
+    }
+
+    private static void twoAreAsked() {
+        GossipNodes x = Groups.startedBy0(6);
+        x.ticks(2);
+        cutFromAll(x, 0, 6);
+        x.ticks(3);
+        int[] asked = {2, 3};
+        for (int m : asked) {
+            int ask = place(x, 3, 0);
+            CHECK.due("asked", x.message(ask, 2), m);
+            CHECK.due("for target 1", x.message(ask, 5), 1);
+            x.drop(ask);
+        }
+        CHECK.due("no third one", place(x, 3, 0), -1);
+        x.ticks(5);
+        dueProbe("neither answered", x, 0, 2, -1, 0, 0, 1, 3);
+    }
+
+    /** Seven nodes probe node 7 at once, and six of them ask node 0. */
+    private static void fourRelaysAtMost() {
+        GossipNodes x = Groups.startedBy0(8);
+        x.ticks(60);
+        x.crash(7);
+        x.ticks(62);
+        CHECK.due("each asks two", x.flight(), 14);
+        x.ticks(1);
+        int[] relays = {4, 4, 2, 0, 0, 0, 0};
+        for (int i = 0; i < 7; i++) {
+            CHECK.due("relays of " + i, x.node(i, 9), relays[i]);
+        }
+        CHECK.due("a PING of each relay", x.flight(), 10);
+        x.ticks(2);
+        int[] nacks = {0, 1, 0, 2, 0, 3, 0, 4, 1, 0, 1, 2, 1, 3, 1, 4, 2, 0, 2, 1};
+        for (int k = 0; k < 10; k++) {
+            CHECK.due("NACK", x.message(k, 0), 4);
+            CHECK.due("NACK from", x.message(k, 1), nacks[2 * k]);
+            CHECK.due("NACK to", x.message(k, 2), nacks[2 * k + 1]);
+        }
+        x.ticks(2);
+        int[] scores = {0, 0, 0, 0, 0, 2, 2};
+        for (int i = 0; i < 7; i++) {
+            CHECK.due("score of " + i, x.node(i, 2), scores[i]);
+        }
+    }
+
     private static void probesGoInTheRound() {
-        GossipNodes x = startedBy0(4);
+        GossipNodes x = Groups.startedBy0(4);
         int[] targets = {1, 2, 3, 1, 2};
         x.ticks(2);
         for (int i = 0; i < targets.length; i++) {
@@ -204,7 +330,7 @@ public final class ProbeTest {
     }
 
     private static void syncsGoInTheRound() {
-        GossipNodes x = startedBy0(4);
+        GossipNodes x = Groups.startedBy0(4);
         x.ticks(7);
         int[] targets = {1, 2, 3, 1};
         for (int i = 0; i < targets.length; i++) {

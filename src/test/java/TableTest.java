@@ -16,14 +16,6 @@ public final class TableTest {
         CHECK.end();
     }
 
-    private static GossipNodes startedBy0(int n) {
-        GossipNodes x = new GossipNodes(n);
-        for (int i = 0; i < n; i++) {
-            x.start(i, 0);
-        }
-        return x;
-    }
-
     private static void dueEntry(String what, GossipNodes x, int node, int member, int... entry) {
         for (int i = 0; i < entry.length; i++) {
             CHECK.due(what + ": view(" + node + ", " + member + ", " + i + ")", x.view(node, member, i), entry[i]);
@@ -50,7 +42,7 @@ public final class TableTest {
     }
 
     private static void suspicionOfOneRipensInEighteen() {
-        GossipNodes x = startedBy0(2);
+        GossipNodes x = Groups.startedBy0(2);
         x.ticks(1);
         dueEntry("learned", x, 0, 1, 1, 0, 1, 0);
         x.ticks(1);
@@ -70,7 +62,7 @@ public final class TableTest {
     }
 
     private static void suspicionOfTwoRipensInTwelve() {
-        GossipNodes x = startedBy0(3);
+        GossipNodes x = Groups.startedBy0(3);
         x.ticks(2);
         x.crash(2);
         CHECK.due("three PINGs, two ACKs", x.ticks(2), 5);
@@ -96,7 +88,7 @@ public final class TableTest {
     /** All nodes probe the crashed one at once; more than three that confirm count as three. */
     private static void suspicionOfThreeRipensInSix() {
         for (int n = 4; n <= 8; n++) {
-            GossipNodes x = startedBy0(n);
+            GossipNodes x = Groups.startedBy0(n);
             x.ticks(60);
             CHECK.due("agreed of " + n, x.agreed(), true);
             int gone = n - 1;
@@ -117,7 +109,7 @@ public final class TableTest {
 
     /** Two nodes that were cut suspect one another; their next PINGs say so. */
     private static void suspectRefutes() {
-        GossipNodes x = startedBy0(2);
+        GossipNodes x = Groups.startedBy0(2);
         x.ticks(2);
         x.cut(0, 1, true);
         x.ticks(8);
@@ -141,7 +133,7 @@ public final class TableTest {
     }
 
     private static void restartedNodeOutdoesItsDeath() {
-        GossipNodes x = startedBy0(2);
+        GossipNodes x = Groups.startedBy0(2);
         x.ticks(2);
         x.crash(1);
         x.ticks(28);
@@ -167,7 +159,7 @@ public final class TableTest {
 
     /** News of itself as ALIVE are nothing, even with another incarnation. */
     private static void quickRestartIsNotAgreed() {
-        GossipNodes x = startedBy0(2);
+        GossipNodes x = Groups.startedBy0(2);
         x.ticks(2);
         x.crash(1);
         x.ticks(28);
@@ -182,7 +174,7 @@ public final class TableTest {
     }
 
     private static void queueIsSharedOut() {
-        GossipNodes x = startedBy0(5);
+        GossipNodes x = Groups.startedBy0(5);
         x.ticks(1);
         for (int m = 0; m < 5; m++) {
             CHECK.due("SYNCED takes none", x.queued(0, m), 4);
