@@ -335,13 +335,7 @@ public final class ProbeTest {
         int[] targets = {1, 2, 3, 1};
         for (int i = 0; i < targets.length; i++) {
             x.ticks(i == 0 ? 13 : 20);
-            int found = -1;
-            for (int k = 0; k < x.flight(); k++) {
-                if (x.message(k, 0) == 6 && x.message(k, 1) == 0) {
-                    found = x.message(k, 2);
-                }
-            }
-            CHECK.due("SYNC of 0 at " + x.now(), found, targets[i]);
+            CHECK.due("SYNC of 0 at " + x.now(), x.message(place(x, 6, 0), 2), targets[i]);
         }
         GossipNodes y = new GossipNodes(2);
         y.start(0, 0);
