@@ -21,13 +21,6 @@ public final class ProbeTest {
         CHECK.end();
     }
 
-    /** From what = 2: score, target, clock, answered, number, REST. */
-    private static void dueProbe(String what, GossipNodes x, int node, int... parts) {
-        for (int i = 0; i < parts.length; i++) {
-            CHECK.due(what + " at " + x.now() + ": node(" + node + ", " + (2 + i) + ")", x.node(node, 2 + i), parts[i]);
-        }
-    }
-
     private static void nodeIsRefused() {
         GossipNodes x = new GossipNodes(2);
         for (int what = -1; what <= 10; what++) {
@@ -49,22 +42,22 @@ public final class ProbeTest {
 
     private static void answeredProbe() {
         GossipNodes x = Groups.startedBy0(2);
-        dueProbe("new", x, 0, 0, -1, 0, 0, 0, 2);
+        CHECK.dueProbe("new", x, 0, 0, -1, 0, 0, 0, 2);
         x.ticks(1);
-        dueProbe("rests", x, 0, 0, -1, 0, 0, 0, 1);
+        CHECK.dueProbe("rests", x, 0, 0, -1, 0, 0, 0, 1);
         x.ticks(1);
-        dueProbe("begins", x, 0, 0, 1, 0, 0, 1, 0);
+        CHECK.dueProbe("begins", x, 0, 0, 1, 0, 0, 1, 0);
         x.ticks(1);
-        dueProbe("goes on", x, 0, 0, 1, 1, 0, 1, 0);
+        CHECK.dueProbe("goes on", x, 0, 0, 1, 1, 0, 1, 0);
         x.ticks(1);
-        dueProbe("is answered", x, 0, 0, 1, 2, 1, 1, 0);
+        CHECK.dueProbe("is answered", x, 0, 0, 1, 2, 1, 1, 0);
         x.ticks(5);
-        dueProbe("waits for its end", x, 0, 0, 1, 7, 1, 1, 0);
+        CHECK.dueProbe("waits for its end", x, 0, 0, 1, 7, 1, 1, 0);
         CHECK.due("nobody was asked", x.flight(), 0);
         x.ticks(1);
-        dueProbe("ends", x, 0, 0, -1, 0, 0, 1, 1);
+        CHECK.dueProbe("ends", x, 0, 0, -1, 0, 0, 1, 1);
         x.ticks(1);
-        dueProbe("begins again", x, 0, 0, 1, 0, 0, 2, 0);
+        CHECK.dueProbe("begins again", x, 0, 0, 1, 0, 0, 2, 0);
     }
 
     private static void probesWithoutHelp() {
@@ -72,23 +65,23 @@ public final class ProbeTest {
         x.ticks(2);
         x.crash(1);
         x.ticks(8);
-        dueProbe("unanswered", x, 0, 1, -1, 0, 0, 1, 2);
+        CHECK.dueProbe("unanswered", x, 0, 1, -1, 0, 0, 1, 2);
         x.ticks(2);
-        dueProbe("a suspect is probed", x, 0, 1, 1, 0, 0, 2, 0);
+        CHECK.dueProbe("a suspect is probed", x, 0, 1, 1, 0, 0, 2, 0);
         x.ticks(8);
-        dueProbe("unanswered", x, 0, 2, -1, 0, 0, 2, 3);
+        CHECK.dueProbe("unanswered", x, 0, 2, -1, 0, 0, 2, 3);
         CHECK.due("no SYNC to a suspect", x.flight(), 0);
         x.ticks(3);
-        dueProbe("third", x, 0, 2, 1, 0, 0, 3, 0);
+        CHECK.dueProbe("third", x, 0, 2, 1, 0, 0, 3, 0);
         x.ticks(8);
-        dueProbe("the target died meanwhile", x, 0, 3, -1, 0, 0, 3, 4);
+        CHECK.dueProbe("the target died meanwhile", x, 0, 3, -1, 0, 0, 3, 4);
         CHECK.due("and stays dead", x.view(0, 1, 0), 3);
         x.ticks(4);
-        dueProbe("there is none to probe", x, 0, 3, -1, 0, 0, 3, 3);
+        CHECK.dueProbe("there is none to probe", x, 0, 3, -1, 0, 0, 3, 3);
         x.ticks(2);
-        dueProbe("rests", x, 0, 3, -1, 0, 0, 3, 1);
+        CHECK.dueProbe("rests", x, 0, 3, -1, 0, 0, 3, 1);
         x.ticks(1);
-        dueProbe("rests again", x, 0, 3, -1, 0, 0, 3, 3);
+        CHECK.dueProbe("rests again", x, 0, 3, -1, 0, 0, 3, 3);
         CHECK.due("sends nothing", x.flight(), 0);
     }
 
@@ -121,13 +114,13 @@ public final class ProbeTest {
         for (int what = 0; what < ack.length; what++) {
             CHECK.due("ACK to the origin", x.message(0, what), ack[what]);
         }
-        dueProbe("before", x, 0, 0, 1, 6, 0, 1, 0);
+        CHECK.dueProbe("before", x, 0, 0, 1, 6, 0, 1, 0);
         x.ticks(1);
-        dueProbe("answered", x, 0, 0, 1, 7, 1, 1, 0);
+        CHECK.dueProbe("answered", x, 0, 0, 1, 7, 1, 1, 0);
         x.ticks(1);
-        dueProbe("ended", x, 0, 0, -1, 0, 0, 1, 1);
+        CHECK.dueProbe("ended", x, 0, 0, -1, 0, 0, 1, 1);
         CHECK.due("not suspected", x.view(0, 1, 0), 1);
-        dueProbe("1 knew nobody to ask", x, 1, 1, -1, 0, 0, 1, 2);
+        CHECK.dueProbe("1 knew nobody to ask", x, 1, 1, -1, 0, 0, 1, 2);
         CHECK.due("and suspects", x.view(1, 0, 0), 2);
     }
 
@@ -150,7 +143,7 @@ public final class ProbeTest {
             CHECK.due("NACK", x.message(0, what), nack[what]);
         }
         x.ticks(2);
-        dueProbe("who asked and got a NACK is not to blame", x, 0, 0, -1, 0, 0, 1, 1);
+        CHECK.dueProbe("who asked and got a NACK is not to blame", x, 0, 0, -1, 0, 0, 1, 1);
         CHECK.due("but the target is suspected", x.view(0, 1, 0), 2);
         CHECK.due("by it alone", x.view(0, 1, 3), 1);
     }
@@ -159,7 +152,7 @@ public final class ProbeTest {
         GossipNodes x = nackAtEight();
         x.drop(0);
         x.ticks(2);
-        dueProbe("one asked, no NACK", x, 0, 1, -1, 0, 0, 1, 2);
+        CHECK.dueProbe("one asked, no NACK", x, 0, 1, -1, 0, 0, 1, 2);
     }
 
     private static void scoreFallsWhenAnswered() {
@@ -171,9 +164,9 @@ public final class ProbeTest {
         CHECK.due("REST is one more", x.node(0, 7), 2);
         CHECK.due("the other was answered", x.node(1, 2), 0);
         x.ticks(2);
-        dueProbe("probes again", x, 0, 1, 1, 0, 0, 2, 0);
+        CHECK.dueProbe("probes again", x, 0, 1, 1, 0, 0, 2, 0);
         x.ticks(8);
-        dueProbe("answered", x, 0, 0, -1, 0, 0, 2, 1);
+        CHECK.dueProbe("answered", x, 0, 0, -1, 0, 0, 2, 1);
     }
 
     /** The ACK of a probe before a crash has another number than the probe that goes on. */
@@ -186,109 +179,93 @@ public final class ProbeTest {
         CHECK.due("ACKs and a SYNC", x.ticks(1), 3);
         CHECK.due("no probe goes on", x.node(0, 5), 0);
         x.ticks(1);
-        dueProbe("first probe", x, 0, 0, 1, 0, 0, 1, 0);
-    }
-
-    /** The place of the first message of a kind from a sender, or -1. */
-    private static int place(GossipNodes x, int kind, int sender) {
-        for (int k = 0; k < x.flight(); k++) {
-            if (x.message(k, 0) == kind && x.message(k, 1) == sender) {
-                return k;
-            }
-        }
-        return -1;
+        CHECK.dueProbe("first probe", x, 0, 0, 1, 0, 0, 1, 0);
     }
 
     /** A relay still answers for the second probe when the restarted node makes its first one. */
     private static void oldNumberIsNothing() {
         GossipNodes x = Groups.startedBy0(3);
         x.ticks(11);
-        dueProbe("second probe", x, 0, 0, 2, 0, 0, 2, 0);
+        CHECK.dueProbe("second probe", x, 0, 0, 2, 0, 0, 2, 0);
         x.cut(0, 2, true);
         x.ticks(3);
-        int ask = place(x, 3, 0);
+        int ask = Wire.place(x, Wire.ASK, 0, Wire.ANY);
         CHECK.due("ASK to 1", x.message(ask, 2), 1);
         CHECK.due("of the second probe", x.message(ask, 3), 2);
         x.crash(0);
         x.start(0, 1);
         x.ticks(2);
-        dueProbe("first probe", x, 0, 0, 1, 0, 0, 1, 0);
-        CHECK.due("its PING is lost", x.drop(place(x, 1, 0)), true);
+        CHECK.dueProbe("first probe", x, 0, 0, 1, 0, 0, 1, 0);
+        CHECK.due("its PING is lost", x.drop(Wire.place(x, Wire.PING, 0, Wire.ANY)), true);
         x.ticks(1);
-        int ack = place(x, 2, 1);
+        int ack = Wire.place(x, Wire.ACK, 1, Wire.ANY);
         CHECK.due("the old ACK goes on to 0", x.message(ack, 2), 0);
         CHECK.due("with its number", x.message(ack, 3), 2);
         x.ticks(1);
-        dueProbe("not answered by that", x, 0, 0, 1, 2, 0, 1, 0);
+        CHECK.dueProbe("not answered by that", x, 0, 0, 1, 2, 0, 1, 0);
     }
 
     /** NACKs for a probe before the restart, of the same number, come on top of those asked for. */
     private static void moreNacksThanAsked() {
         GossipNodes x = Groups.startedBy0(4);
         x.ticks(2);
-        cutFromAll(x, 1, 4);
+        Wire.cutFromAll(x, 1, 4, true);
         x.ticks(3);
-        CHECK.due("0 asks", place(x, 3, 0) >= 0, true);
+        CHECK.due("0 asks", Wire.place(x, Wire.ASK, 0, Wire.ANY) >= 0, true);
         x.crash(0);
         x.start(0, 2);
         x.ticks(2);
-        dueProbe("first probe again", x, 0, 0, 1, 0, 0, 1, 0);
+        CHECK.dueProbe("first probe again", x, 0, 0, 1, 0, 0, 1, 0);
         x.ticks(1);
-        CHECK.due("old NACK of 2", x.message(place(x, 4, 2), 2), 0);
-        CHECK.due("old NACK of 3", x.message(place(x, 4, 3), 2), 0);
+        CHECK.due("old NACK of 2", x.message(Wire.place(x, Wire.NACK, 2, Wire.ANY), 2), 0);
+        CHECK.due("old NACK of 3", x.message(Wire.place(x, Wire.NACK, 3, Wire.ANY), 2), 0);
         x.ticks(2);
-        CHECK.due("0 asks again", place(x, 3, 0) >= 0, true);
+        CHECK.due("0 asks again", Wire.place(x, Wire.ASK, 0, Wire.ANY) >= 0, true);
         x.ticks(3);
-        CHECK.due("new NACK of 2", x.message(place(x, 4, 2), 2), 0);
-        CHECK.due("new NACK of 3", x.message(place(x, 4, 3), 2), 0);
+        CHECK.due("new NACK of 2", x.message(Wire.place(x, Wire.NACK, 2, Wire.ANY), 2), 0);
+        CHECK.due("new NACK of 3", x.message(Wire.place(x, Wire.NACK, 3, Wire.ANY), 2), 0);
         x.ticks(2);
-        dueProbe("the score does not grow, and does not fall", x, 0, 0, -1, 0, 0, 1, 1);
+        CHECK.dueProbe("the score does not grow, and does not fall", x, 0, 0, -1, 0, 0, 1, 1);
         CHECK.due("suspected", x.view(0, 1, 0), 2);
-    }
-
-    private static void cutFromAll(GossipNodes x, int node, int n) {
-        for (int m = 0; m < n; m++) {
-            x.cut(node, m, true);
-        }
     }
 
     private static void nobodyHearsNodeZero() {
         GossipNodes x = Groups.startedBy0(4);
         x.ticks(2);
-        cutFromAll(x, 0, 4);
+        Wire.cutFromAll(x, 0, 4, true);
         x.ticks(8);
-        dueProbe("two asked", x, 0, 2, -1, 0, 0, 1, 3);
+        CHECK.dueProbe("two asked", x, 0, 2, -1, 0, 0, 1, 3);
         x.ticks(3);
-        dueProbe("second probe", x, 0, 2, 2, 0, 0, 2, 0);
+        CHECK.dueProbe("second probe", x, 0, 2, 2, 0, 0, 2, 0);
         x.ticks(3);
-        int ask = place(x, 3, 0);
+        int ask = Wire.place(x, Wire.ASK, 0, Wire.ANY);
         CHECK.due("a suspect is not asked", x.message(ask, 2), 3);
         x.ticks(5);
-        dueProbe("one asked", x, 0, 3, -1, 0, 0, 2, 4);
+        CHECK.dueProbe("one asked", x, 0, 3, -1, 0, 0, 2, 4);
         x.ticks(12);
-        dueProbe("none to ask", x, 0, 4, -1, 0, 0, 3, 5);
+        CHECK.dueProbe("none to ask", x, 0, 4, -1, 0, 0, 3, 5);
         CHECK.due("the first is dead", x.view(0, 1, 0), 3);
         x.ticks(5);
-        dueProbe("the dead one is passed over", x, 0, 4, 2, 0, 0, 4, 0);
+        CHECK.dueProbe("the dead one is passed over", x, 0, 4, 2, 0, 0, 4, 0);
         x.ticks(8);
-        dueProbe("not above 4", x, 0, 4, -1, 0, 0, 4, 5);
+        CHECK.dueProbe("not above 4", x, 0, 4, -1, 0, 0, 4, 5);
     }
 
     private static void twoAreAsked() {
         GossipNodes x = Groups.startedBy0(6);
         x.ticks(2);
-        cutFromAll(x, 0, 6);
+        Wire.cutFromAll(x, 0, 6, true);
         x.ticks(3);
         int[] asked = {2, 3};
         for (int m : asked) {
-            int ask = place(x, 3, 0);
+            int ask = Wire.place(x, Wire.ASK, 0, Wire.ANY);
             CHECK.due("asked", x.message(ask, 2), m);
             CHECK.due("for target 1", x.message(ask, 5), 1);
             x.drop(ask);
         }
-        CHECK.due("no third one", place(x, 3, 0), -1);
+        CHECK.due("no third one", Wire.place(x, Wire.ASK, 0, Wire.ANY), -1);
         x.ticks(5);
-        dueProbe("neither answered", x, 0, 2, -1, 0, 0, 1, 3);
+        CHECK.dueProbe("neither answered", x, 0, 2, -1, 0, 0, 1, 3);
     }
 
     /** Seven nodes probe node 7 at once, and six of them ask node 0. */
@@ -335,7 +312,7 @@ public final class ProbeTest {
         int[] targets = {1, 2, 3, 1};
         for (int i = 0; i < targets.length; i++) {
             x.ticks(i == 0 ? 13 : 20);
-            CHECK.due("SYNC of 0 at " + x.now(), x.message(place(x, 6, 0), 2), targets[i]);
+            CHECK.due("SYNC of 0 at " + x.now(), x.message(Wire.place(x, Wire.SYNC, 0, Wire.ANY), 2), targets[i]);
         }
         GossipNodes y = new GossipNodes(2);
         y.start(0, 0);

@@ -16,12 +16,6 @@ public final class TableTest {
         CHECK.end();
     }
 
-    private static void dueEntry(String what, GossipNodes x, int node, int member, int... entry) {
-        for (int i = 0; i < entry.length; i++) {
-            CHECK.due(what + ": view(" + node + ", " + member + ", " + i + ")", x.view(node, member, i), entry[i]);
-        }
-    }
-
     private static void viewRefusesAndMisses() {
         GossipNodes x = new GossipNodes(3);
         x.ticks(5);
@@ -31,10 +25,10 @@ public final class TableTest {
         CHECK.due("node 3", x.view(3, 0, 0), -1);
         CHECK.due("neither node nor member", x.view(3, 3, 9), -1);
         CHECK.due("member of one that does not run", x.view(1, 5, 0), -1);
-        dueEntry("itself", x, 0, 0, 1, 0, 5, 0, 0);
-        dueEntry("missing", x, 0, 1, 0, 0, 0, 0, 0);
-        dueEntry("no member", x, 0, 3, 0, 0, 0, 0, 0);
-        dueEntry("no member", x, 0, -1, 0, 0, 0, 0, 0);
+        CHECK.dueEntry("itself", x, 0, 0, 1, 0, 5, 0, 0);
+        CHECK.dueEntry("missing", x, 0, 1, 0, 0, 0, 0, 0);
+        CHECK.dueEntry("no member", x, 0, 3, 0, 0, 0, 0, 0);
+        CHECK.dueEntry("no member", x, 0, -1, 0, 0, 0, 0, 0);
         CHECK.due("what -1", x.view(0, 0, -1), 0);
         CHECK.due("what 4", x.view(0, 0, 4), 0);
         x.crash(0);
@@ -44,19 +38,19 @@ public final class TableTest {
     private static void suspicionOfOneRipensInEighteen() {
         GossipNodes x = Groups.startedBy0(2);
         x.ticks(1);
-        dueEntry("learned", x, 0, 1, 1, 0, 1, 0);
+        CHECK.dueEntry("learned", x, 0, 1, 1, 0, 1, 0);
         x.ticks(1);
         x.crash(1);
         x.ticks(7);
-        dueEntry("while probed", x, 0, 1, 1, 0, 1, 0);
+        CHECK.dueEntry("while probed", x, 0, 1, 1, 0, 1, 0);
         x.ticks(1);
-        dueEntry("suspected", x, 0, 1, 2, 0, 10, 1);
+        CHECK.dueEntry("suspected", x, 0, 1, 2, 0, 10, 1);
         CHECK.due("announced", x.queued(0, 1), 4);
         x.ticks(17);
-        dueEntry("probed once more meanwhile", x, 0, 1, 2, 0, 10, 1);
+        CHECK.dueEntry("probed once more meanwhile", x, 0, 1, 2, 0, 10, 1);
         CHECK.due("SUSPECT is not agreed", x.agreed(), false);
         x.ticks(1);
-        dueEntry("declared dead", x, 0, 1, 3, 0, 28, 0);
+        CHECK.dueEntry("declared dead", x, 0, 1, 3, 0, 28, 0);
         CHECK.due("announced", x.queued(0, 1), 4);
         CHECK.due("DEAD is agreed", x.agreed(), true);
     }
@@ -68,20 +62,20 @@ public final class TableTest {
         CHECK.due("three PINGs, two ACKs", x.ticks(2), 5);
         x.ticks(15);
         for (int i = 0; i < 2; i++) {
-            dueEntry("both suspect, each alone", x, i, 2, 2, 0, 19, 1);
+            CHECK.dueEntry("both suspect, each alone", x, i, 2, 2, 0, 19, 1);
         }
         x.ticks(1);
         CHECK.due("PING and SYNC of each", x.flight(), 4);
         x.ticks(1);
         for (int i = 0; i < 2; i++) {
-            dueEntry("each confirms", x, i, 2, 2, 0, 19, 2);
+            CHECK.dueEntry("each confirms", x, i, 2, 2, 0, 19, 2);
         }
         x.ticks(9);
         CHECK.due("now", x.now(), 30);
-        dueEntry("still suspect, however often confirmed", x, 0, 2, 2, 0, 19, 2);
+        CHECK.dueEntry("still suspect, however often confirmed", x, 0, 2, 2, 0, 19, 2);
         x.ticks(1);
         for (int i = 0; i < 2; i++) {
-            dueEntry("dead", x, i, 2, 3, 0, 31, 0);
+            CHECK.dueEntry("dead", x, i, 2, 3, 0, 31, 0);
         }
     }
 
@@ -113,8 +107,8 @@ public final class TableTest {
         x.ticks(2);
         x.cut(0, 1, true);
         x.ticks(8);
-        dueEntry("suspected", x, 0, 1, 2, 0, 10, 1);
-        dueEntry("suspected too", x, 1, 0, 2, 0, 10, 1);
+        CHECK.dueEntry("suspected", x, 0, 1, 2, 0, 10, 1);
+        CHECK.dueEntry("suspected too", x, 1, 0, 2, 0, 10, 1);
         CHECK.due("score of none asked", x.node(1, 2), 1);
         x.cut(0, 1, false);
         x.ticks(2);
@@ -122,13 +116,13 @@ public final class TableTest {
         x.ticks(1);
         for (int i = 0; i < 2; i++) {
             CHECK.due("one more", x.node(i, 1), 1);
-            dueEntry("itself", x, i, i, 1, 1, 13, 0);
+            CHECK.dueEntry("itself", x, i, i, 1, 1, 13, 0);
             CHECK.due("the score grows", x.node(i, 2), 2);
             CHECK.due("announced, and sent with the ACK", x.queued(i, i), 3);
         }
         x.ticks(1);
-        dueEntry("alive again", x, 0, 1, 1, 1, 14, 0);
-        dueEntry("alive again", x, 1, 0, 1, 1, 14, 0);
+        CHECK.dueEntry("alive again", x, 0, 1, 1, 1, 14, 0);
+        CHECK.dueEntry("alive again", x, 1, 0, 1, 1, 14, 0);
         CHECK.due("agreed", x.agreed(), true);
     }
 
@@ -139,13 +133,13 @@ public final class TableTest {
         x.ticks(28);
         x.start(1, 0);
         x.ticks(1);
-        dueEntry("ALIVE is not greater than DEAD", x, 0, 1, 3, 0, 28, 0);
+        CHECK.dueEntry("ALIVE is not greater than DEAD", x, 0, 1, 3, 0, 28, 0);
         CHECK.dueMessage("SYNCED", x, 0, new int[] {7, 0, 1, 0, 0, 0}, 0, 1, 0, 1, 3, 0);
         x.ticks(1);
-        dueEntry("one more", x, 1, 1, 1, 1, 32, 0);
+        CHECK.dueEntry("one more", x, 1, 1, 1, 1, 32, 0);
         CHECK.due("score", x.node(1, 2), 1);
         x.ticks(1);
-        dueEntry("back", x, 0, 1, 1, 1, 33, 0);
+        CHECK.dueEntry("back", x, 0, 1, 1, 1, 33, 0);
         CHECK.due("agreed", x.agreed(), true);
         x.crash(1);
         x.ticks(37);
@@ -154,7 +148,7 @@ public final class TableTest {
         x.start(1, 0);
         x.ticks(2);
         // "One more" than what was told of it, or its word would not count against that.
-        dueEntry("one more than was told", x, 1, 1, 1, 2, 72, 0);
+        CHECK.dueEntry("one more than was told", x, 1, 1, 1, 2, 72, 0);
     }
 
     /** News of itself as ALIVE are nothing, even with another incarnation. */
@@ -169,7 +163,7 @@ public final class TableTest {
         x.start(1, 0);
         x.ticks(2);
         CHECK.due("its own", x.node(1, 1), 0);
-        dueEntry("the other's", x, 0, 1, 1, 1, 33, 0);
+        CHECK.dueEntry("the other's", x, 0, 1, 1, 1, 33, 0);
         CHECK.due("both ALIVE, but not the same", x.agreed(), false);
     }
 
