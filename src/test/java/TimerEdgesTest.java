@@ -3,6 +3,8 @@ public final class TimerEdgesTest {
     private static final Check CHECK = new Check("TimerEdgesTest");
 
     public static void main(String[] args) {
+        timersByRisingNodes();
+        timersOfRunningNodesAlone();
         relayEndsAtThree();
         relaysInTheirOrder();
         suspicionOfOne();
@@ -40,6 +42,34 @@ public final class TimerEdgesTest {
         syncPassesOver();
         noneToSyncWith();
         CHECK.end();
+    }
+
+    private static void timersByRisingNodes() {
+        CHECK.sentence("Then the TIMERS of the running nodes, by rising nodes.");
+        GossipNodes x = new GossipNodes(8);
+        for (int node : new int[] {7, 5, 0, 3}) {
+            x.start(node, 7);
+        }
+        x.ticks(2);
+        CHECK.due("a PING of each", x.flight(), 4);
+        int[] senders = {0, 3, 5, 7};
+        for (int k = 0; k < 4; k++) {
+            CHECK.due("PING", x.message(k, 0), 1);
+            CHECK.due("sender", x.message(k, 1), senders[k]);
+        }
+    }
+
+    private static void timersOfRunningNodesAlone() {
+        CHECK.sentence("Then the TIMERS of the running nodes, by rising nodes.");
+        GossipNodes x = Groups.startedBy0(2);
+        x.ticks(1);
+        x.crash(0);
+        x.ticks(1);
+        CHECK.due("the PING of 1 alone", x.flight(), 1);
+        CHECK.due("its sender", x.message(0, 1), 1);
+        x.crash(1);
+        CHECK.due("none runs", x.ticks(100), 0);
+        CHECK.due("nothing is sent", x.flight(), 0);
     }
 
     private static void relayEndsAtThree() {
